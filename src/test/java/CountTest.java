@@ -4,6 +4,7 @@ public final class CountTest {
         otherNumbersAnswerMinusOne();
         theLatestRejectionStays();
         tooLongIsNoRejection();
+        nothingIsLeftOpen();
         runsAreCounted();
         countGoesRound();
         Expect.end();
@@ -38,6 +39,21 @@ public final class CountTest {
         Expect.due("reason", x.count(2), 0);
         Expect.due("looked at", x.count(4), 300);
         Expect.due("checked", x.count(1), 0);
+    }
+
+    private static void nothingIsLeftOpen() {
+        // Rejected while the target's way of step 0 waits; it must not be gone down by the next check.
+        CheckedMachine x = Expect.machine(Steps.above(1, 0, 2), Steps.divide(1, 0), Steps.set(0, 1), Steps.exit());
+        Expect.thrown("rejected", () -> x.check(), Expect.ILLEGAL_ARGUMENT);
+        Expect.putIn(x, 0, Steps.set(0, 7));
+        Expect.putIn(x, 1, Steps.exit());
+        Expect.due("check after a rejection", x.check(), 2);
+        Expect.due("outcome after a rejection", x.outcome(false), 7);
+        CheckedMachine y = Expect.machine(Steps.set(0, 1), Steps.divide(0, 0));
+        Expect.thrown("rejected", () -> y.check(), Expect.ILLEGAL_ARGUMENT);
+        Expect.putIn(y, 0, Steps.exit());
+        Expect.thrown("R0 is empty again", () -> y.check(), Expect.ILLEGAL_ARGUMENT);
+        Expect.due("R0 is empty again, reason", y.count(2), 2);
     }
 
     private static void runsAreCounted() {

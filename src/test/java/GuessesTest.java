@@ -83,6 +83,9 @@ public final class GuessesTest {
         from(-3, 4, "* -5", -20, 15, Steps.times(0, -5));
         from(-3, 4, "* 0", 0, 0, Steps.times(0, 0));
         fromAny("* 0", MIN, MAX, Steps.times(0, 0));
+        // One end within 2^31, the other far off
+        fromAny("0 and above, * 1", MIN, MAX, Steps.above(0, -1, 3), Steps.set(0, 0), Steps.times(0, 1));
+        fromAny("0 and below, * 1", MIN, MAX, Steps.above(0, 0, 4), Steps.times(0, 1), Steps.go(5), Steps.set(0, 0));
         fromAny(">> 32, * least int", -(1L << 62) + (1L << 31), 1L << 62, Steps.shift(0, 32),
                 Steps.times(0, INT_MIN));
         Expect.outcomes("2^31 times", -(1L << 62), -(1L << 62), Steps.set(0, INT_MAX), Steps.plus(0, 1),
@@ -190,6 +193,20 @@ public final class GuessesTest {
                 Steps.load(0, 2, 1));
         cell("stored 70 in 1 .. 2, cell 0", 50, 50, start, Steps.set(0, 70), Steps.store(4, 1, 0),
                 Steps.load(0, 2, 0));
+        // R1 is 0 .. 1, cells 2 and 3 are 7 and 0 .. 1
+        int[][] more = {Steps.set(0, 7), Steps.store(2, 2, 0), Steps.store(2, 3, 1)};
+        cell("1 .. 2", -60, 7, start, more[0], more[1], Steps.load(0, 4, 1));
+        cell("2 .. 3", 0, 7, start, more[0], more[1], more[2], Steps.load(0, 4, 2));
+        cell("6 .. 7 less 4", 0, 7, start, more[0], more[1], more[2], Steps.plus(4, 6), Steps.load(0, 4, -4));
+        cell("stored 0 .. 1 in 2 .. 3", 0, 7, start, more[0], more[1], more[2], Steps.store(4, 2, 1),
+                Steps.load(0, 2, 2));
+        cell("stored 7 in 2 .. 3", 0, 7, start, more[0], more[1], more[2], Steps.store(4, 2, 0), Steps.load(0, 2, 3));
+        cell("stored 30 in either, cell 0", 30, 50, start, Steps.set(0, 30), Steps.store(4, 0, 0),
+                Steps.load(0, 2, 0));
+        cell("stored 30 in either, cell 1", -60, 30, start, Steps.set(0, 30), Steps.store(4, 0, 0),
+                Steps.load(0, 2, 1));
+        cell("either, the second's end", 0, 51, start, Steps.copy(0, 1), Steps.plus(0, 50), Steps.store(2, 1, 0),
+                Steps.store(2, 0, 1), Steps.load(0, 4, 0));
         cell("place loaded into its own register", 50, 50, start, Steps.load(2, 2, 0), Steps.copy(0, 2));
         cell("either loaded into the place's register", -60, 50, start, Steps.load(4, 4, 0), Steps.copy(0, 4));
         Expect.outcomes("a row's cell", MIN, MAX, Steps.set(1, 2), Steps.find(), Steps.equal(0, 0, 4),

@@ -55,8 +55,10 @@ public final class RandomProgramsTest {
         plain.steps.clear();
         int size = 2 + random.nextInt(23);
         manyForks = random.nextInt(5) == 0;
+        boolean frameFirst = random.nextInt(4) == 0;
         for (int i = 0; i < size; i++) {
-            int[] step = i == size - 1 ? Steps.exit() : randomStep(i, size);
+            int[] step = i == size - 1 ? Steps.exit()
+                    : frameFirst && i < 12 ? frameStep(i) : randomStep(i, size);
             Expect.addTo(machine, step);
             plain.steps.add(step);
         }
@@ -79,7 +81,7 @@ public final class RandomProgramsTest {
             return Steps.exit();
         }
         // Some steps that open the way for the rarer ones.
-        switch (random.nextInt(12)) {
+        switch (random.nextInt(14)) {
             case 0:
                 return Steps.and(random.nextInt(6), 1 << random.nextInt(4));
             case 1:
@@ -90,6 +92,10 @@ public final class RandomProgramsTest {
                 return Steps.equal(0, 0, at + 1 + random.nextInt(size - at - 1));
             case 4:
                 return Steps.set(random.nextInt(2), random.nextInt(8));
+            case 5:
+                return Steps.load(0, 2 + 2 * random.nextInt(2), random.nextInt(3));
+            case 6:
+                return Steps.store(2 + 2 * random.nextInt(2), random.nextInt(3), random.nextInt(2) * 5);
             default:
                 return randomStep(at, size);
         }
@@ -110,6 +116,36 @@ public final class RandomProgramsTest {
         }
         int d = op <= 1 || op == 14 ? random.nextInt(6) : register();
         return new int[] {op, d, register(), n, target};
+    }
+
+    /** Fills cells, makes R4 one of several places and goes on with it. */
+    private int[] frameStep(int i) {
+        switch (i) {
+            case 0:
+                return Steps.copy(4, 2);
+            case 1:
+                return Steps.copy(5, 1);
+            case 2:
+                return Steps.and(5, random.nextInt(4));
+            case 3:
+                return Steps.plusReg(4, 5);
+            default:
+                break;
+        }
+        int r = random.nextBoolean() ? 0 : random.nextBoolean() ? 5 : random.nextInt(6);
+        int n = random.nextInt(12) == 0 ? random.nextInt(9) - 2 : random.nextInt(4);
+        switch (random.nextInt(7)) {
+            case 0:
+                return Steps.load(0, 4, n);
+            case 1:
+                return Steps.store(4, n, r);
+            case 2:
+                return Steps.plus(5, random.nextInt(200) - 100);
+            case 3:
+                return Steps.set(0, random.nextInt(200) - 100);
+            default:
+                return Steps.store(2, random.nextInt(6), r);
+        }
     }
 
     /** Every other step makes a register whatever may be, the ones between fork on it. */
@@ -189,8 +225,8 @@ public final class RandomProgramsTest {
 
     // Random programs that never get somewhere would test nothing there.
     private void expectAllKindsSeen() {
-        System.out.println("random programs: " + passed + " checks passed, " + tooLong + " too long, rejected by reason "
-                + java.util.Arrays.toString(reasons));
+        System.out.println("random programs: " + passed + " checks passed, " + tooLong
+                + " too long, rejected by reason " + java.util.Arrays.toString(reasons));
         Expect.due("enough passed", passed > PROGRAMS / 20 ? 1 : 0, 1);
         Expect.due("enough too long", tooLong > PROGRAMS / 1000 ? 1 : 0, 1);
         for (int reason = 1; reason <= 7; reason++) {

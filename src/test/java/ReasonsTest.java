@@ -96,6 +96,10 @@ public final class ReasonsTest {
         int[][] two = {Steps.copy(4, 2), Steps.and(1, 1), Steps.plusReg(4, 1)};
         Expect.rejected("a place into one of two cells", 4, 3, 4, two[0], two[1], two[2], Steps.store(4, 0, 2));
         Expect.rejected("over a place", 4, 4, 5, two[0], two[1], two[2], Steps.store(2, 1, 2), Steps.store(4, 0, 1));
+        Expect.rejected("over a place, the first cell", 4, 4, 5, two[0], two[1], two[2], Steps.store(2, 0, 2),
+                Steps.store(4, 0, 1));
+        Expect.rejected("over a place, 3 further on", 4, 4, 5, two[0], two[1], two[2], Steps.store(2, 3, 2),
+                Steps.store(4, 3, 1));
         Expect.rejected("beside a place", 1, 5, 6, two[0], two[1], two[2], Steps.store(2, 2, 2),
                 Steps.store(4, 0, 1));
         Expect.rejected("over a place, with a cell that isn't there", 4, 4, 5, two[0], two[1], two[2],
@@ -118,6 +122,14 @@ public final class ReasonsTest {
         Expect.rejected("101 by two steps", 5, 2, 3, Steps.set(3, 51), Steps.plus(2, 50), Steps.plusReg(2, 3));
         Expect.rejected("beyond all longs", 5, 3, 4, Steps.shift(1, 1), Steps.plus(2, 100), Steps.plus(1, 99),
                 Steps.plusReg(2, 1));
+        // R2 is 0 .. 7 further on
+        Expect.rejected("93 .. 100 are near enough", 1, 3, 4, Steps.and(1, 7), Steps.plusReg(2, 1), Steps.plus(2, 93));
+        Expect.rejected("94 .. 101", 5, 2, 3, Steps.and(1, 7), Steps.plusReg(2, 1), Steps.plus(2, 94));
+        Expect.rejected("-100 .. -93 are near enough", 1, 3, 4, Steps.and(1, 7), Steps.plusReg(2, 1),
+                Steps.plus(2, -100));
+        Expect.rejected("-101 .. -94", 5, 2, 3, Steps.and(1, 7), Steps.plusReg(2, 1), Steps.plus(2, -101));
+        Expect.rejected("0 .. 100 is near enough", 1, 2, 3, Steps.and(1, 100), Steps.plusReg(2, 1));
+        Expect.rejected("0 .. 101", 5, 1, 2, Steps.and(1, 101), Steps.plusReg(2, 1));
         Expect.rejected("of a row", 5, 3, 4, Steps.set(1, 3), Steps.find(), Steps.equal(0, 0, 4),
                 Steps.plus(0, 101), Steps.exit());
     }
