@@ -34,7 +34,7 @@ public final class CountTest {
     }
 
     private static void tooLongIsNoRejection() {
-        CheckedMachine x = WaysTest.forks(7);
+        CheckedMachine x = Programs.forks(7);
         Expect.thrown("too long", () -> x.check(), Expect.UNSUPPORTED);
         Expect.due("reason", x.count(2), 0);
         Expect.due("looked at", x.count(4), 300);

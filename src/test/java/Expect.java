@@ -9,6 +9,8 @@ final class Expect {
     static final String UNSUPPORTED = "UnsupportedOperationException";
 
     private static int wrong = 0;
+    private static String sentence = "";
+    private static boolean tested = true;
 
     private Expect() {
     }
@@ -17,14 +19,29 @@ final class Expect {
         void make();
     }
 
+    /** Says which words of the document the answers that follow are due by. */
+    static void sentence(String words) {
+        noticeUntested();
+        sentence = "\"" + words + "\": ";
+        tested = false;
+    }
+
+    private static void noticeUntested() {
+        if (!tested) {
+            wrong++;
+            System.out.println(sentence + "no answer was looked at");
+        }
+    }
+
     static void due(String what, long got, long want) {
         due(what, Long.toString(got), Long.toString(want));
     }
 
     static void due(String what, String got, String want) {
+        tested = true;
         if (!got.equals(want)) {
             wrong++;
-            System.out.println(what + ": answered " + got + ", due is " + want);
+            System.out.println(sentence + what + ": answered " + got + ", due is " + want);
         }
     }
 
@@ -91,6 +108,7 @@ final class Expect {
     }
 
     static void end() {
+        noticeUntested();
         if (wrong != 0) {
             System.out.println(wrong + " answers are not as due");
             System.exit(1);

@@ -88,4 +88,52 @@ final class Steps {
     static int[] exit() {
         return new int[] {17, 0, 0, 0, 0};
     }
+
+    static int[][] list(int[]... steps) {
+        return steps;
+    }
+
+    static int[][] join(int[][]... parts) {
+        int size = 0;
+        for (int[][] part : parts) {
+            size += part.length;
+        }
+        int[][] all = new int[size][];
+        int at = 0;
+        for (int[][] part : parts) {
+            System.arraycopy(part, 0, all, at, part.length);
+            at += part.length;
+        }
+        return all;
+    }
+
+    /** R1, any long, makes register r the range lo .. hi; r must not be 1. */
+    static int[][] range(int r, int lo, int hi) {
+        return list(copy(r, 1), and(r, hi - lo), plus(r, lo));
+    }
+
+    static int[][] any(int r) {
+        return list(copy(r, 1));
+    }
+
+    /** Register r is -2^62 .. 2^62 - 1. */
+    static int[][] half(int r) {
+        return list(copy(r, 1), shift(r, 1));
+    }
+
+    /** Register r is the least long. */
+    static int[][] least(int r) {
+        return list(set(r, Integer.MIN_VALUE), times(r, Integer.MIN_VALUE), negate(r), plusReg(r, r));
+    }
+
+    /** Register r is the greatest long. */
+    static int[][] greatest(int r) {
+        return list(set(r, Integer.MIN_VALUE), times(r, Integer.MIN_VALUE), plus(r, -1), plusReg(r, r), plus(r, 1));
+    }
+
+    /** After the steps before, R0 is cell 0 of row 3 (and R1 to R3 are empty); if there were none, the answer is 0. */
+    static int[][] inRow(int[][] before, int[]... body) {
+        int missing = before.length + 3 + body.length;
+        return join(before, list(set(1, 3), find(), equal(0, 0, missing)), body, list(set(0, 0), exit()));
+    }
 }

@@ -1,6 +1,3 @@
-import java.util.ArrayList;
-import java.util.List;
-
 /** Promise 5: the ways of a program, their order, and what is too long. */
 public final class WaysTest {
     public static void main(String[] args) {
@@ -11,60 +8,11 @@ public final class WaysTest {
         Expect.end();
     }
 
-    /** After SET R0, n forks whose two ways both go to the next step, then EXIT. */
-    static CheckedMachine forks(int n) {
-        CheckedMachine x = Expect.machine(Steps.set(0, 1));
-        for (int i = 0; i < n; i++) {
-            Expect.addTo(x, Steps.copy(3, 1));
-            Expect.addTo(x, Steps.above(3, -1, x.count(0) + 1));
-        }
-        Expect.addTo(x, Steps.exit());
-        return x;
-    }
-
-    /** Steps from number first on, of which a check looks at just so many. */
-    private static List<int[]> costing(int looked, int first) {
-        List<int[]> steps = new ArrayList<>();
-        for (int rest = looked; rest > 1;) {
-            if (rest % 2 == 0 && rest > 2) {
-                steps.add(Steps.copy(3, 1));
-                steps.add(Steps.above(3, -1, first + steps.size() + 1));
-                rest = (rest - 2) / 2;
-            } else {
-                steps.add(Steps.set(0, 1));
-                rest--;
-            }
-        }
-        steps.add(Steps.exit());
-        return steps;
-    }
-
-    private static CheckedMachine costingAll(int looked) {
-        CheckedMachine x = Expect.machine(Steps.set(0, 1));
-        addAll(x, costing(looked - 1, 1));
-        return x;
-    }
-
-    /** Forks; just so many steps are looked at before the target's way, which has the end. */
-    private static CheckedMachine costingBefore(int looked, int[] end) {
-        List<int[]> middle = costing(looked - 2, 2);
-        CheckedMachine x = Expect.machine(Steps.set(0, 1), Steps.above(1, 0, 2 + middle.size()));
-        addAll(x, middle);
-        Expect.addTo(x, end);
-        return x;
-    }
-
-    private static void addAll(CheckedMachine x, List<int[]> steps) {
-        for (int[] step : steps) {
-            Expect.addTo(x, step);
-        }
-    }
-
     private static void stepsLookedAt() {
-        Expect.due("no fork", forks(0).check(), 2);
-        Expect.due("one fork", forks(1).check(), 5);
+        Expect.due("no fork", Programs.forks(0).check(), 2);
+        Expect.due("one fork", Programs.forks(1).check(), 5);
         // SET, 2 * (1 + 2 + .. + 32) on the ways, 64 exits
-        Expect.due("six forks", forks(6).check(), 1 + 2 * 63 + 64);
+        Expect.due("six forks", Programs.forks(6).check(), 1 + 2 * 63 + 64);
         CheckedMachine x = Expect.checked("go", Steps.set(0, 1), Steps.go(3), Steps.set(0, 2), Steps.exit());
         Expect.due("go", x.count(4), 3);
     }
@@ -80,11 +28,11 @@ public final class WaysTest {
     }
 
     private static void theLimit() {
-        CheckedMachine just = costingAll(300);
+        CheckedMachine just = Programs.costingAll(300);
         Expect.due("300 looked at", just.check(), 300);
         Expect.due("300 looked at, counted", just.count(4), 300);
         Expect.due("300 looked at, run", just.run(0), 1);
-        CheckedMachine more = costingAll(301);
+        CheckedMachine more = Programs.costingAll(301);
         Expect.thrown("301 to look at", () -> more.check(), Expect.UNSUPPORTED);
         Expect.due("301 to look at, looked at", more.count(4), 300);
         Expect.thrown("too long, run", () -> more.run(0), Expect.ILLEGAL_STATE);
@@ -92,10 +40,10 @@ public final class WaysTest {
     }
 
     private static void theLimitBeforeARejection() {
-        ends("the 300th is wrong", costingBefore(299, Steps.copy(0, 5)), Expect.ILLEGAL_ARGUMENT);
-        ends("the 301st would be wrong", costingBefore(300, Steps.copy(0, 5)), Expect.UNSUPPORTED);
-        ends("the 300th is not there", costingBefore(298, Steps.set(0, 1)), Expect.ILLEGAL_ARGUMENT);
-        ends("the 301st would not be there", costingBefore(299, Steps.set(0, 1)), Expect.UNSUPPORTED);
+        ends("the 300th is wrong", Programs.costingBefore(299, Steps.copy(0, 5)), Expect.ILLEGAL_ARGUMENT);
+        ends("the 301st would be wrong", Programs.costingBefore(300, Steps.copy(0, 5)), Expect.UNSUPPORTED);
+        ends("the 300th is not there", Programs.costingBefore(298, Steps.set(0, 1)), Expect.ILLEGAL_ARGUMENT);
+        ends("the 301st would not be there", Programs.costingBefore(299, Steps.set(0, 1)), Expect.UNSUPPORTED);
     }
 
     private static void ends(String what, CheckedMachine x, String want) {
