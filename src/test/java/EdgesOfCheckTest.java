@@ -42,7 +42,8 @@ public final class EdgesOfCheckTest {
     private static final int[] LOOKED = {5, 7, 10, 12};
 
     private static void everyWayInOrder() {
-        Expect.sentence("goes down every WAY; where there are two, first that of the next STEP, then that of the TARGET");
+        Expect.sentence("goes down every WAY; where there are two, first that of the next STEP, then that of "
+                + "the TARGET");
         Expect.due("all ways", tree().check(), 13);
         for (int i = 0; i < 4; i++) {
             CheckedMachine x = tree();
@@ -268,7 +269,8 @@ public final class EdgesOfCheckTest {
     }
 
     private static void outcomeNeedsACheckedProgram() {
-        Expect.sentence("The least (high false) or greatest OUTCOME of the CHECKED program; it isn't: IllegalStateException.");
+        Expect.sentence("The least (high false) or greatest OUTCOME of the CHECKED program; it isn't: "
+                + "IllegalStateException.");
         CheckedMachine x = new CheckedMachine();
         noOutcome("no steps", x);
         Expect.addTo(x, Steps.copy(0, 1));

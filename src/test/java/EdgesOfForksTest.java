@@ -83,7 +83,8 @@ public final class EdgesOfForksTest {
     }
 
     private static void equalHere() {
-        Expect.sentence("on the other one, which there isn't if d is n .. n, D has the end that n is, if it is one, off.");
+        Expect.sentence("on the other one, which there isn't if d is n .. n, D has the end that n is, if it "
+                + "is one, off.");
         for (int n = 4; n <= 6; n++) {
             ways("5 equal " + n, n != 5, n == 5, Steps.equal(D, n, 0), d(5, 5));
         }
@@ -165,7 +166,8 @@ public final class EdgesOfForksTest {
     }
 
     private static void belowThere() {
-        Expect.sentence("else there, if d.lo < s.hi: d.hi is the lesser of d.hi and s.hi - 1, s.lo the greater of s.lo and d.lo + 1");
+        Expect.sentence("else there, if d.lo < s.hi: d.hi is the lesser of d.hi and s.hi - 1, s.lo the "
+                + "greater of s.lo and d.lo + 1");
         // d.lo .. d.hi, s.lo .. s.hi, then d.hi and s.lo there
         int[][] rows = {{0, 7, 4, 5, 4, 4}, {4, 5, 0, 7, 5, 5}, {0, 3, 4, 9, 3, 4}, {0, 4, 4, 9, 4, 4},
             {0, 8, 1, 9, 8, 1}, {0, 9, 0, 9, 8, 1}, {5, 9, 1, 6, 5, 6}, {5, 5, 6, 6, 5, 6}, {0, 9, 4, 9, 8, 4}};

@@ -160,7 +160,8 @@ public final class EdgesOfGuessesTest {
         offsets("- 100", -100, -100, Steps.plus(2, -100));
         offsets("+ R3, -7", -7, -7, Steps.set(3, -7), Steps.plusReg(2, 3));
         offsets("+ R3, 1 .. 3", 1, 3, Steps.join(between(1, 3), Steps.list(Steps.plusReg(2, 3))));
-        offsets("+ R3, 1 .. 3, + 4", 5, 7, Steps.join(between(1, 3), Steps.list(Steps.plusReg(2, 3), Steps.plus(2, 4))));
+        offsets("+ R3, 1 .. 3, + 4", 5, 7, Steps.join(between(1, 3),
+                Steps.list(Steps.plusReg(2, 3), Steps.plus(2, 4))));
         offsets("+ R3, 1 .. 3, + R3 again", 2, 6, Steps.join(between(1, 3),
                 Steps.list(Steps.plusReg(2, 3), Steps.plusReg(2, 3))));
     }
@@ -227,7 +228,8 @@ public final class EdgesOfGuessesTest {
     }
 
     private static void maskOfSeveral() {
-        Expect.sentence("else for n not below 0: 0 .. n, or 0 .. the lesser of n and d.hi, if d.lo isn't below 0; else ANY");
+        Expect.sentence("else for n not below 0: 0 .. n, or 0 .. the lesser of n and d.hi, if d.lo isn't "
+                + "below 0; else ANY");
         comes("-1 .. 3 and 6: d.lo is below 0", 0, 6, between(-1, 3), Steps.and(3, 6));
         comes("-1 .. 0 and 6", 0, 6, between(-1, 0), Steps.and(3, 6));
         comes("-5 .. -4 and 6", 0, 6, between(-5, -4), Steps.and(3, 6));
@@ -309,6 +311,8 @@ public final class EdgesOfGuessesTest {
                 Steps.copy(3, 2));
         Expect.checked("what may be missing", Steps.copy(4, 2), Steps.set(1, 0), Steps.find(), Steps.store(4, 2, 0),
                 Steps.load(5, 4, 2), Steps.equal(5, 0, 7), Steps.load(5, 5, 1), Steps.set(0, 1), Steps.exit());
+        Expect.rejected("no cell is stored in, though a place is loaded", 6, 4, 5, Steps.copy(3, 2), Steps.plus(3, 3),
+                Steps.store(2, 1, 3), Steps.load(5, 2, 1), Steps.load(0, 2, 4), Steps.exit());
         Expect.rejected("what may be missing, not yet known", 4, 5, 6, Steps.copy(4, 2), Steps.set(1, 0),
                 Steps.find(), Steps.store(4, 2, 0), Steps.load(5, 4, 2), Steps.load(5, 5, 1), Steps.exit());
     }
@@ -356,7 +360,8 @@ public final class EdgesOfGuessesTest {
     }
 
     private static void storeInMore() {
-        Expect.sentence("where more may be meant: each of them that has a RANGE gets the least lo and greatest hi of that and s");
+        Expect.sentence("where more may be meant: each of them that has a RANGE gets the least lo and "
+                + "greatest hi of that and s");
         int[][] sixty = Steps.join(cells(), Steps.list(Steps.set(3, 60)));
         comes("60 in 1 and 2, cell 1", -9, 60, sixty, Steps.store(4, 1, 3), Steps.load(3, 2, 1));
         comes("60 in 1 and 2, cell 2", 40, 60, sixty, Steps.store(4, 1, 3), Steps.load(3, 2, 2));

@@ -22,6 +22,7 @@ public final class EdgesOfKindsTest {
         r0OfExit();
         cellsThatStoreMayMean();
         cellsThatAreNotThere();
+        otherStepsMeanNoCells();
         Expect.end();
     }
 
@@ -189,6 +190,12 @@ public final class EdgesOfKindsTest {
                         Steps.store(SEVERAL, 1, RANGE));
             }
         }
+        // The same with an S that is far from the offsets.
+        for (int c = 0; c <= 4; c++) {
+            int reason = c >= 1 && c <= 3 ? 4 : FITS;
+            judged("cell " + c + " a place, 50 .. 52 stored", reason, 2, Steps.plus(5, 50),
+                    Steps.store(FRAME, c, FRAME), Steps.store(SEVERAL, 1, RANGE));
+        }
         judged("all empty", FITS, 2, Steps.store(SEVERAL, 1, RANGE));
         judged("all stay empty", 6, 2, Steps.store(SEVERAL, 1, RANGE), Steps.load(0, FRAME, 2));
         judged("one of a row's cells, whatever the frame holds", FITS, 1, Steps.store(FRAME, 0, FRAME),
@@ -213,6 +220,17 @@ public final class EdgesOfKindsTest {
                     Steps.store(SEVERAL, 6, RANGE));
             judged("cells far away, 0 is " + name(kind), 5, 1, Steps.store(FRAME, 0, kind),
                     Steps.store(SEVERAL, Integer.MAX_VALUE, RANGE));
+        }
+    }
+
+    private static void otherStepsMeanNoCells() {
+        Expect.sentence("STORE (no other op): others, of those that are there: REASON 4");
+        // D is a place that may mean cells 0 and 1, which hold places.
+        int[][] others = {Steps.set(SEVERAL, 0), Steps.copy(SEVERAL, RANGE), Steps.plus(SEVERAL, 0),
+            Steps.plusReg(SEVERAL, RANGE), Steps.load(SEVERAL, FRAME, 0), new int[] {13, SEVERAL, SEVERAL, 0, 0},
+            new int[] {16, SEVERAL, SEVERAL, 0, 0}};
+        for (int[] step : others) {
+            judged("op " + step[0], FITS, 1, Steps.store(FRAME, 0, FRAME), Steps.store(FRAME, 1, MAYBE), step);
         }
     }
 }

@@ -216,7 +216,8 @@ public final class EdgesOfProgramTest {
     }
 
     private static void putOfWhatIsNoStep() {
-        Expect.sentence("void put(int i, int op, int d, int s, int number, int target) throws IllegalArgumentException");
+        Expect.sentence("void put(int i, int op, int d, int s, int number, int target) throws "
+                + "IllegalArgumentException");
         CheckedMachine x = Expect.machine(Steps.set(0, 1), Steps.exit());
         for (int i : new int[] {-1, 0, 1, 2, INT_MAX}) {
             Expect.thrown("op, at " + i, () -> x.put(i, 18, 0, 0, 0, 0), Expect.ILLEGAL_ARGUMENT);

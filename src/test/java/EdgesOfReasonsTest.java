@@ -242,11 +242,27 @@ public final class EdgesOfReasonsTest {
                 Steps.plus(2, 97))));
         judged("3 .. 4 further on + 96", FITS, Steps.join(Steps.range(3, 3, 4), Steps.list(Steps.plusReg(2, 3),
                 Steps.plus(2, 96))));
+        int[][] apart = Steps.join(Steps.range(3, -3, 4), Steps.list(Steps.plusReg(2, 3)));
+        int[][] further = {{-98, 5}, {-97, FITS}, {96, FITS}, {97, 5}};
+        for (int[] by : further) {
+            judged("-3 .. 4 + " + by[0], by[1], Steps.join(apart, Steps.list(Steps.plus(2, by[0]))));
+            judged("-3 .. 4 + R3, " + by[0], by[1], Steps.join(apart, Steps.list(Steps.set(3, by[0]),
+                    Steps.plusReg(2, 3))));
+        }
         judged("any", 5, Steps.plusReg(2, 1));
         judged("100 and the greatest long", 5, Steps.join(Steps.list(Steps.plus(2, 100)), Steps.greatest(3),
                 Steps.list(Steps.plusReg(2, 3))));
         judged("-100 and the least long", 5, Steps.join(Steps.list(Steps.plus(2, -100)), Steps.least(3),
                 Steps.list(Steps.plusReg(2, 3))));
+        // Only one end goes far, and beyond all longs: 100 + 0 .. greatest, -100 + least .. 0
+        Expect.rejected("100 and 0 or more", 5, 4, 5, Steps.plus(2, 100), Steps.above(1, -1, 4), Steps.set(0, 0),
+                Steps.exit(), Steps.plusReg(2, 1), Steps.set(0, 0), Steps.exit());
+        judged("-100 and 0 or less", 5, Steps.plus(2, -100), Steps.above(1, 0, 3), Steps.plusReg(2, 1));
+        judged("100 and 0 or less", 5, Steps.plus(2, 100), Steps.above(1, 0, 3), Steps.plusReg(2, 1));
+        int[][] wide = Steps.join(Steps.range(3, -100, 100), Steps.list(Steps.plusReg(2, 3)));
+        judged("-100 .. 100 and 0 or less", 5, Steps.join(wide, Steps.list(Steps.above(1, 0, 6), Steps.plusReg(2, 1))));
+        Expect.rejected("-100 .. 100 and 0 or more", 5, 7, 8, Steps.join(wide, Steps.list(Steps.above(1, -1, 7),
+                Steps.set(0, 0), Steps.exit(), Steps.plusReg(2, 1), Steps.set(0, 0), Steps.exit())));
     }
 
     private static void sumsOfNumbersAreFree() {

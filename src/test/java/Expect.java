@@ -19,7 +19,10 @@ final class Expect {
         void make();
     }
 
-    /** Says which words of the document the answers that follow are due by. */
+    /**
+     * Says by which words of the document the answers that follow are due; what is added to them stands in
+     * brackets or last.
+     */
     static void sentence(String words) {
         noticeUntested();
         sentence = "\"" + words + "\": ";
